@@ -42,10 +42,21 @@ public final class RandomRunsTest {
         odd = dice.nextInt(3) == 0 ? 10 : 1;
         lastSaid = "a";
         boolean large = run % 10 == 0;
-        while (calls < 470 && !Due.anyWrong()) {
+        while (calls < 460 && !Due.anyWrong()) {
             oneDeed(large);
         }
-        for (int what = 0; what < 36; what++) {
+        lookAtAll();
+    }
+
+    private void lookAtAll() {
+        for (int pair = 0; pair < y.told(1) && calls < 490; pair++) {
+            call(5, pair, 2, 0);
+            call(7, dice.nextInt(1 + y.told(2)), pair, 0);
+        }
+        call(12, -1, 0, 0);
+        call(22, 1, 0, 0);
+        call(13, 0, 0, 0);
+        for (int what = 0; what < 36; what += 1 + dice.nextInt(4)) {
             call(25, what, 0, 0);
         }
     }
@@ -61,7 +72,10 @@ public final class RandomRunsTest {
         } else if (deed < 30) {
             // One text grows alone now and then, so that they are of unlike size.
             call(20, dice.nextInt(2), 1 + dice.nextInt(dice.nextBoolean() ? 99 : 12), 0);
-        } else if (deed < 33 && dice.nextInt(odd == 10 ? 1 : 3) == 0) {
+        } else if (deed < 32 && dice.nextInt(2) == 0) {
+            // To and fro between images: the same places hold now the one thing, now the other.
+            call(23 + dice.nextInt(2), dice.nextInt(2), 0, 0);
+        } else if (deed < 36 && dice.nextInt(odd == 10 ? 1 : 3) == 0) {
             call(1, 0, 0, 0);
             call(0, number(), 0, 0);
             call(2, dice.nextInt(2), 0, 0);
