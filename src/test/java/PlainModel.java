@@ -1,6 +1,8 @@
 import java.util.ArrayList;
 import java.util.Arrays;
+import java.util.HashMap;
 import java.util.List;
+import java.util.Map;
 
 /**
  * The document read a second time, as plainly as can be and without regard to speed: texts instead
@@ -142,7 +144,17 @@ final class PlainModel {
         return Character.isDigit(c);
     }
 
+    // The same two sentences are held against one another again and again.
+    private static final Map<String, Integer> FAR = new HashMap<>();
+
     static int farOf(String a, String b) {
+        if (FAR.size() > 100000) {
+            FAR.clear();
+        }
+        return FAR.computeIfAbsent(a + " " + b, both -> farAnew(a, b));
+    }
+
+    private static int farAnew(String a, String b) {
         int[][] d = new int[a.length() + 1][b.length() + 1];
         for (int i = 0; i <= a.length(); i++) {
             for (int j = 0; j <= b.length(); j++) {
