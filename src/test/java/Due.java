@@ -1,25 +1,41 @@
 /** Counts answers that are not as due, and prints them. */
 final class Due {
+    private static final int MOST_PRINTED = 200;
     private static int checked = 0;
     private static int wrong = 0;
+    private static String at = "";
 
     private Due() {
+    }
+
+    /** What is printed ahead of each wrong answer from now on. */
+    static void at(String where) {
+        at = where;
     }
 
     static void due(String call, long got, long want) {
         checked++;
         if (got != want) {
-            wrong++;
-            System.out.println(call + " answered " + got + ", due is " + want);
+            tell(call + " answered " + got + ", due is " + want);
         }
     }
 
     static void holds(String what, boolean so) {
         checked++;
         if (!so) {
-            wrong++;
-            System.out.println("does not hold: " + what);
+            tell("does not hold: " + what);
         }
+    }
+
+    private static void tell(String what) {
+        wrong++;
+        if (wrong <= MOST_PRINTED) {
+            System.out.println(at + what);
+        }
+    }
+
+    static int checked() {
+        return checked;
     }
 
     static boolean anyWrong() {

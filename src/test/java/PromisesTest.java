@@ -1,8 +1,5 @@
 /** Each promise of the document by itself: ordinary calls, the edges that it names, wrong inputs. */
-public final class PromisesTest {
-    private static final int NONE = -6, UNKNOWN = -1, OUTSIDE = -2, STATE = -3, FULL = -4, NO = -5;
-    private static final int LOW = Integer.MIN_VALUE, HIGH = Integer.MAX_VALUE;
-
+public final class PromisesTest extends Given {
     private PromisesTest() {
     }
 
@@ -39,115 +36,6 @@ public final class PromisesTest {
         promise26OtherThingsInTheSamePlaces();
         promise27Told();
         Due.end();
-    }
-
-    // ---- what the tests say by one word
-
-    private static void due(String call, long got, long want) {
-        Due.due(call, got, want);
-    }
-
-    private static void say(SaidAlready x, String signs) {
-        for (int i = 0; i < signs.length(); i++) {
-            x.say(signs.charAt(i));
-        }
-    }
-
-    private static int fault(String signs, int how) {
-        SaidAlready x = new SaidAlready();
-        say(x, signs);
-        return x.fault(how);
-    }
-
-    private static int keep(SaidAlready x, String pair, int behind) {
-        say(x, pair);
-        return x.keep(behind);
-    }
-
-    private static int write(SaidAlready x, String sentence) {
-        say(x, sentence);
-        return x.write();
-    }
-
-    private static SaidAlready kept(String... pairs) {
-        SaidAlready x = new SaidAlready();
-        for (String pair : pairs) {
-            keep(x, pair, -1);
-        }
-        return x;
-    }
-
-    private static SaidAlready text(String... sentences) {
-        SaidAlready x = new SaidAlready();
-        for (String sentence : sentences) {
-            write(x, sentence);
-        }
-        return x;
-    }
-
-    private static int far(String one, String other) {
-        return text(one, other).far(0, 1);
-    }
-
-    private static int like(String sentence, String first) {
-        SaidAlready x = kept(first + "=A");
-        write(x, sentence);
-        return x.match(0, 0);
-    }
-
-    private static String second(SaidAlready x, int pair) {
-        StringBuilder signs = new StringBuilder();
-        for (int i = 0; i < x.pair(pair, 1); i++) {
-            signs.append((char) x.pair(pair, 200 + i));
-        }
-        return signs.toString();
-    }
-
-    private static String first(SaidAlready x, int pair) {
-        StringBuilder signs = new StringBuilder();
-        for (int i = 0; i < x.pair(pair, 0); i++) {
-            signs.append((char) x.pair(pair, 100 + i));
-        }
-        return signs.toString();
-    }
-
-    private static String filled(SaidAlready x, int sentence) {
-        StringBuilder signs = new StringBuilder();
-        for (int i = 0; i < x.filled(sentence, -1); i++) {
-            signs.append((char) x.filled(sentence, i));
-        }
-        return signs.toString();
-    }
-
-    private static String order(SaidAlready x) {
-        StringBuilder order = new StringBuilder();
-        for (int i = 0; x.order(i) != NONE; i++) {
-            order.append(x.order(i));
-        }
-        return order.toString();
-    }
-
-    private static String steps(SaidAlready x) {
-        StringBuilder steps = new StringBuilder();
-        for (int i = 0; i < x.laid(-3); i++) {
-            steps.append(x.laid(i));
-        }
-        return steps.toString();
-    }
-
-    private static SaidAlready laid(int[] one, int[] other) {
-        SaidAlready x = new SaidAlready();
-        for (int v : one) {
-            x.length(0, v);
-        }
-        for (int v : other) {
-            x.length(1, v);
-        }
-        return x;
-    }
-
-    private static void same(String what, String got, String want) {
-        Due.holds(what + ": " + got + ", due is " + want, got.equals(want));
     }
 
     // ---- the promises
