@@ -1,8 +1,10 @@
 /** Counts answers that are not as due, and prints them. */
 final class Due {
-    private static final int MOST_PRINTED = 200;
+    /** One fault can make thousands of answers wrong: the first of them tell enough. */
+    private static final int MOST_PRINTED = 20;
     private static int checked = 0;
     private static int wrong = 0;
+    private static int wrongHere = 0;
     private static String at = "";
 
     private Due() {
@@ -11,6 +13,7 @@ final class Due {
     /** What is printed ahead of each wrong answer from now on. */
     static void at(String where) {
         at = where;
+        wrongHere = 0;
     }
 
     static void due(String call, long got, long want) {
@@ -29,7 +32,8 @@ final class Due {
 
     private static void tell(String what) {
         wrong++;
-        if (wrong <= MOST_PRINTED) {
+        wrongHere++;
+        if (wrongHere <= MOST_PRINTED) {
             System.out.println(at + what);
         }
     }

@@ -15,6 +15,11 @@ import java.util.TreeSet;
 public final class FaceTest {
     private static final Path SOURCE = Path.of("src/main/java/SaidAlready.java");
     private static final Path DOCUMENT = Path.of("../shared/DOC.md");
+    // What the machine throws is tested for ahead, never caught: by its own name or by a class above it.
+    private static final String[] FORBIDDEN = {
+        "package ", "::", "synchronized", "assert ", "finally", "Exact(", "NaN", "NullPointerException",
+        "ArrayIndexOutOfBoundsException", "ClassCastException", "NegativeArraySizeException", "ArrayStoreException",
+        "catch (IndexOutOfBoundsException", "catch (RuntimeException", "catch (Exception", "catch (Throwable"};
 
     private FaceTest() {
     }
@@ -107,22 +112,29 @@ public final class FaceTest {
         }
     }
 
+    /** What can be read off the source; LANGUAGE.md's numbers stand in brackets. */
     private static void theSourceKeepsToTheLanguage() throws IOException {
-        String source = Files.readString(SOURCE);
-        for (String word : new String[] {"import ", "package ", "->", "::", " catch ", " throw ", " try ",
-            "synchronized", "assert ", "Exact(", "System.", "double", "float", "\"", "finally", "interface "}) {
-            Due.holds("the source is without '" + word + "'", !source.contains(word));
-        }
+        List<String> lines = Files.readAllLines(SOURCE);
         int line = 0;
         int begun = 0;
-        for (String text : source.split("\n")) {
+        for (String text : lines) {
             line++;
-            Due.holds("line " + line + " has 100 signs at most", text.length() <= 100);
+            String code = text.replaceAll("//.*|^ *(/\\*\\*|\\*).*", "");
+            for (String word : FORBIDDEN) {
+                Due.holds("line " + line + " is without '" + word + "' (2, 4, 6)", !code.contains(word));
+            }
+            Due.holds("line " + line + " has no lambda (2)",
+                    !code.contains("->") || code.strip().matches("(case|default)\\b.*"));
+            Due.holds("line " + line + " uses System for arraycopy alone (4, 13)",
+                    !code.replace("System.arraycopy", "").contains("System."));
+            Due.holds("line " + line + " imports what rules 4 and 6 list",
+                    !code.startsWith("import ") || code.matches(
+                            "import java\\.util\\.(ArrayList|Arrays|Iterator|List|NoSuchElementException);"));
             if (text.matches("( {4}| {8})[a-zA-Z].*\\) \\{")) {
                 begun = line;
             }
             if (text.matches("( {4}| {8})\\}") && begun > 0) {
-                Due.holds("the method at line " + begun + " is short", line - begun <= 60);
+                Due.holds("the method at line " + begun + " is short (11)", line - begun <= 70);
                 begun = 0;
             }
         }

@@ -9,10 +9,15 @@ final class Look {
     }
 
     static String at(Given.Made made) {
+        return now(made) + "\nsigns " + signs(made.anew())
+                + "\nimage 0 " + image(made, 0) + "\nimage 1 " + image(made, 1);
+    }
+
+    /** All but what the IMAGES hold, and which signs there are. */
+    static String now(Given.Made made) {
         return "settings " + settings(made.anew()) + "\npairs " + pairs(made.anew())
                 + "\nlikeness " + likeness(made.anew()) + "\nwords " + words(made.anew())
-                + "\nprices " + prices(made.anew()) + "\nsigns " + signs(made.anew())
-                + "\nimage 0 " + image(made, 0) + "\nimage 1 " + image(made, 1);
+                + "\nprices " + prices(made.anew());
     }
 
     static String settings(SaidAlready x) {

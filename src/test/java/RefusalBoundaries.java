@@ -36,6 +36,11 @@ final class RefusalBoundaries extends Given {
     static SaidAlready full() {
         SaidAlready x = new SaidAlready();
         x.image(0);
+        fill(x);
+        return x;
+    }
+
+    static void fill(SaidAlready x) {
         for (int n = 0; n < 12; n++) {
             keep(x, "" + (char) ('a' + n % 4) + n % 10 + "=" + (char) ('A' + n % 3) + n % 10, n - 1);
         }
@@ -52,7 +57,6 @@ final class RefusalBoundaries extends Given {
         }
         rated(x, 99, 98, 97, 96, 95);
         say(x, "aaaaaaaaaaaa=AAAAAAAAAAAA~~~~~");
-        return x;
     }
 
     // ---- What it is

@@ -1,62 +1,76 @@
 import com.sun.management.ThreadMXBean;
 import java.lang.management.ManagementFactory;
 
-/** All calls of a run live in one room: what is made is made with the object, and calls make nothing. */
-public final class RoomTest {
+/**
+ * All calls of a run live in one room of 7.3 million fields and elements: 512 of the dearest call, or
+ * 512 new objects, must find room in it.
+ */
+public final class RoomTest extends Given {
     private static final ThreadMXBean THREADS = (ThreadMXBean) ManagementFactory.getThreadMXBean();
+    private static final long CALLS = 512;
+    // An element takes a byte at least, but the rows that are large hold numbers of four.
+    private static final long ROOM = 7_300_000L * 4;
+    private static SaidAlready made;
     private static long sum = 0;
 
     private RoomTest() {
     }
 
     public static void main(String[] args) {
-        // The first runs load classes, which is not the program's doing.
-        for (int n = 0; n < 3; n++) {
-            wholeRun(new SaidAlready());
-        }
-        long before = made();
-        SaidAlready x = new SaidAlready();
-        long atFirst = made() - before;
-        before = made();
-        wholeRun(x);
-        long byCalls = made() - before;
-        System.out.println("bytes: " + atFirst + " by a new object, " + byCalls + " by its calls");
-        Due.holds("a new object is small", atFirst < 64 * 1024);
-        Due.holds("calls make nothing", byCalls < 4 * 1024);
-        Due.holds("the run was made", sum != 0);
+        fits("a new object", x -> {
+            made = new SaidAlready();
+            return 1;
+        });
+        fits("say", x -> x.say('a'));
+        fits("fault", x -> x.fault(1));
+        fits("keep", x -> x.keep(-1));
+        fits("write", x -> x.write());
+        fits("pair", x -> x.pair(11, 100));
+        fits("far", x -> x.far(0, 9));
+        fits("match", x -> x.match(9, 11));
+        fits("found", x -> x.found(9, 0));
+        fits("filled", x -> x.filled(9, 0));
+        fits("rate", x -> x.rate(0, 3));
+        fits("price", x -> x.price(-1));
+        fits("order", x -> x.order(-1));
+        fits("order of one", x -> x.order(9));
+        fits("kept", x -> x.kept());
+        fits("must", x -> x.must(3, 3));
+        fits("wrongs", x -> x.wrongs());
+        fits("goes", x -> x.goes(0, 0, 1));
+        fits("learnt", x -> x.learnt(0));
+        fits("otherwise", x -> x.otherwise(0, 0, 1));
+        fits("clash", x -> x.clash());
+        fits("length", x -> x.length(0, 3));
+        fits("laid", x -> x.laid(-1));
+        fits("laid of one", x -> x.laid(5));
+        fits("image", x -> x.image(0));
+        fits("restore", x -> x.restore(1));
+        fits("told", x -> x.told(1));
+        fits("lengths", x -> x.lengths());
+        fits("wipe", x -> x.wipe());
+        Due.holds("the calls were made", sum != 0 && made.told(0) == 0);
         Due.end();
     }
 
-    private static long made() {
-        return THREADS.getThreadAllocatedBytes(Thread.currentThread().getId());
+    private static void fits(String call, Ask ask) {
+        // The first calls load classes, which is not the program's doing.
+        for (int n = 0; n < 3; n++) {
+            sum += ask.of(full());
+        }
+        SaidAlready x = full();
+        long before = THREADS.getThreadAllocatedBytes(Thread.currentThread().getId());
+        sum += ask.of(x);
+        long bytes = THREADS.getThreadAllocatedBytes(Thread.currentThread().getId()) - before;
+        if (bytes > 0) {
+            System.out.println(call + " makes " + bytes + " bytes");
+        }
+        Due.holds(CALLS + " times " + call + ", " + bytes + " bytes each, has room", bytes * CALLS <= ROOM);
     }
 
-    private static void say(SaidAlready x, int first, int n, int step) {
-        for (int i = 0; i < n; i++) {
-            sum += x.say(first + (i * step) % 16);
-        }
-    }
-
-    private static void wholeRun(SaidAlready x) {
-        for (int pair = 0; pair < 12; pair++) {
-            say(x, 'a', 12, 1 + pair % 5);
-            sum += x.say('=');
-            say(x, 'A', 4, pair);
-            sum += x.keep(pair - 1);
-        }
-        for (int sentence = 0; sentence < 10; sentence++) {
-            say(x, 'a', 12, 1 + sentence % 7);
-            sum += x.write();
-        }
-        for (int n = 0; n < 12; n++) {
-            sum += x.length(0, 5 + n) + x.length(1, 20 - n);
-        }
-        for (int n = -3; n < 10; n++) {
-            sum += x.order(n) + x.laid(n) + x.kept() + x.wrongs() + x.learnt(n) + x.goes(n, n, 0);
-            sum += x.price(n) + x.found(n, 0) + x.filled(n, 0) + x.match(n, n) + x.far(n, 0);
-            sum += x.clash() + x.told(n) + x.fault(1) + x.pair(n, 100) + x.must(n, n) + x.rate(n, n);
-            sum += x.otherwise(n, n, n + 1) + x.image(n & 1) + x.restore(n & 1);
-        }
-        sum += x.lengths() + x.wipe();
+    private static SaidAlready full() {
+        SaidAlready x = RefusalBoundaries.full();
+        x.wipe();
+        return x;
     }
 }

@@ -107,6 +107,12 @@ final class SideBoundaries extends Given {
         laidDue(row(10, 10), row(30), 20, 1, "3");
     }
 
+    @Says(at = "Terms 5", words = "STEPS: the first such row")
+    static void terms5MoreStepsThanLengthsOfOneText() {
+        laidDue(row(1, 1, 1, 1, 1, 1, 1, 1, 1, 99, 99, 99), row(99, 99, 99, 1, 1, 1, 1, 1, 1, 1, 1, 1),
+                8 * 31 + 11 + 0 + 11 + 8 * 31, 1, "1111111130422222222");
+    }
+
     @Says(at = "Terms 5", words = "STEPS: the first such row by STEPS' numbers.")
     static void terms5TheFirstRowByNumbers() {
         laidDue(times(3, 10), times(2, 15), 20, 2, "03");
@@ -348,6 +354,92 @@ final class SideBoundaries extends Given {
         due("FULL again", x.length(0, 5), FULL);
         same("the first PAIR", first(x, 0) + second(x, 0), "a0A0");
         due("the 12th stood behind the 11th", x.pair(11, 2), 10);
+    }
+
+    /** Few things, all unlike those of a full object that stand in the same places. */
+    private static void fillAFew(SaidAlready x) {
+        keep(x, "nop=N", -1);
+        keep(x, "p=OP", -1);
+        keep(x, "p1=O1", 0);
+        written(x, "op1", "op2", "n", "m");
+        x.length(0, 50);
+        x.length(1, 60);
+        x.must(13, 13);
+    }
+
+    /** The dear questions, for which an object may keep what it found. */
+    private static void ask(SaidAlready x) {
+        x.order(-1);
+        x.order(9);
+        x.kept();
+        x.laid(-1);
+        x.found(0, 0);
+        x.filled(0, -1);
+        x.price(-1);
+    }
+
+    @Says(at = "Promise 26", words = "It is as it was when it was kept")
+    static void promise26OtherThingsStoodInTheSamePlaces() {
+        same("few, then others, then few", Look.now(() -> {
+            SaidAlready x = new SaidAlready();
+            x.image(0);
+            fillAFew(x);
+            x.image(1);
+            x.restore(0);
+            keep(x, "a=A", -1);
+            keep(x, "b=B", 0);
+            keep(x, "c=C", 1);
+            written(x, "c", "b", "a", "a");
+            ask(x);
+            x.restore(1);
+            return x;
+        }), Look.now(() -> {
+            SaidAlready x = new SaidAlready();
+            fillAFew(x);
+            return x;
+        }));
+    }
+
+    @Says(at = "Promise 26", words = "It is as it was when it was kept")
+    static void promise26WhatWasAskedAheadDoesNotMatter() {
+        same("few behind full", Look.now(() -> {
+            SaidAlready x = RefusalBoundaries.full();
+            x.wipe();
+            ask(x);
+            x.restore(0);
+            fillAFew(x);
+            return x;
+        }), Look.now(() -> {
+            SaidAlready x = new SaidAlready();
+            fillAFew(x);
+            return x;
+        }));
+        same("full behind few", Look.now(() -> {
+            SaidAlready x = new SaidAlready();
+            x.image(0);
+            fillAFew(x);
+            ask(x);
+            x.restore(0);
+            RefusalBoundaries.fill(x);
+            return x;
+        }), Look.now(RefusalBoundaries::full));
+        SaidAlready x = new SaidAlready();
+        x.image(0);
+        written(x, "a", "a");
+        due("both are the same", x.order(-1), 12);
+        x.restore(0);
+        write(x, "a");
+        due("one alone", x.order(-1), 10);
+        write(x, "b");
+        due("they are not the same now", x.order(-1), 20);
+        x.restore(0);
+        keep(x, "a=A", -1);
+        write(x, "a");
+        due("a PAIR is needed", x.kept(), 1);
+        x.restore(0);
+        keep(x, "a=A", -1);
+        write(x, "b");
+        due("none is needed now", x.kept(), 0);
     }
 
     @Says(at = "Promise 26", words = "OUTSIDE")
