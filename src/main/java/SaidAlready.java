@@ -25,6 +25,8 @@ public final class SaidAlready {
     private static final int SECOND_SIGNS_FROM = 200;
     private static final int RATES_FROM = 10;
     private static final int MUSTS_FROM = 20;
+    // No text costs more than 11880 (10 times 12 signs at 99), no laying more than 3096 (24 times 129).
+    private static final int ABOVE_ALL_COSTS = 1000000;
     private static final char BETWEEN = '=';
     private static final char ONE_TONGUE = 'a';
     private static final char OTHER_TONGUE = 'A';
@@ -711,7 +713,7 @@ public final class SaidAlready {
 
         /** The first SENTENCE not done yet that leads on to the least price. */
         private void chooseNext(Memory memory, int done) {
-            int least = Integer.MAX_VALUE;
+            int least = ABOVE_ALL_COSTS;
             for (int sentence = 0; sentence < memory.sentences; sentence++) {
                 if ((done & 1 << sentence) == 0) {
                     int price = priceWith(memory, done, sentence);
@@ -896,7 +898,7 @@ public final class SaidAlready {
 
         private void layFrom(Row one, int i, Row other, int j) {
             boolean atEnd = i == one.size && j == other.size;
-            int least = atEnd ? 0 : Integer.MAX_VALUE;
+            int least = atEnd ? 0 : ABOVE_ALL_COSTS;
             long count = atEnd ? 1 : 0;
             for (int step = 0; step < STEPS; step++) {
                 if (fits(one, i, other, j, step)) {

@@ -127,6 +127,8 @@ public final class FaceTest {
                     !code.contains("->") || code.strip().matches("(case|default)\\b.*"));
             Due.holds("line " + line + " uses System for arraycopy alone (4, 13)",
                     !code.replace("System.arraycopy", "").contains("System."));
+            Due.holds("line " + line + " uses functions of Integer, Long and Math alone (4)",
+                    !code.matches(".*\\b(Integer|Long|Math)\\.(?![a-z][A-Za-z]*\\().*"));
             Due.holds("line " + line + " imports what rules 4 and 6 list",
                     !code.startsWith("import ") || code.matches(
                             "import java\\.util\\.(ArrayList|Arrays|Iterator|List|NoSuchElementException);"));
